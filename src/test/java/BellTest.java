@@ -17,6 +17,7 @@ public final class BellTest {
         causes();
         causeLeavesTheRest();
         keptBreaches();
+        restsBeginAnew();
         wrongInputs();
         Check.finish();
     }
@@ -128,10 +129,10 @@ public final class BellTest {
         Check.due("not from the watch", few.handOf(1, 4), 0);
         Check.due("not a sick one", few.handOf(2, 4), 1);
         WatchBill enough = Check.ship("least 1;");
-        enough.hand(1, 0);
         enough.hand(0, 0);
+        enough.hand(1, 0);
         enough.bells(5);
-        Check.due("nobody lacks", enough.handOf(0, 4), 0);
+        Check.due("nobody lacks", enough.handOf(1, 4), 0);
     }
 
     private static void fillingIsFair() {
@@ -299,6 +300,32 @@ public final class BellTest {
         Check.due("not kept", x.breach(200, 0), NONE);
         Check.due("not kept", x.breach(207, 1), NONE);
         Check.due("counted all the same", x.handOf(15, 5), 13);
+    }
+
+    private static void restsBeginAnew() {
+        String text = "rest 3 1 0;bill x 1:a 1;";
+        WatchBill x = Check.ship(text);
+        x.hand(0, 1);
+        x.sick(0, 10);
+        x.bells(10);
+        x.order(0);
+        x.bells(10);
+        x.sick(0, 2);
+        x.bells(2);
+        Check.due("breaches", x.about(4), 8);
+        Check.text(x, text);
+        x.bells(3);
+        Check.due("free bells of the earlier text don't count", x.about(4), 1);
+        Check.due("its bell", x.breach(0, 0), 2);
+        Check.due("orders of the earlier text don't count", x.breach(0, 2), NONE);
+        WatchBill y = Check.ship("rest 3 0 2;");
+        y.hand(0, 0);
+        y.sick(0, 10);
+        y.bells(10);
+        Check.text(y, "rest 3 0 2;");
+        y.sick(0, 1);
+        y.bells(3);
+        Check.due("a run of the earlier text doesn't count", y.about(4), 1);
     }
 
     private static void wrongInputs() {

@@ -6,6 +6,7 @@ public final class OrderTest {
         firstByStations();
         fewestFromBelow();
         fewestBeforeFirst();
+        fewestOrderByOrder();
         handsThatCannot();
         watchOfTheNextBell();
         learners();
@@ -86,6 +87,21 @@ public final class OrderTest {
         Check.due("order", x.order(0), 0);
         stations(x, 0, 1, 0, 2);
         Check.due("called", x.ordered(0, 2), 1);
+    }
+
+    private static void fewestOrderByOrder() {
+        // Each order is counted by itself: the first takes the watch's own hand.
+        WatchBill x = Check.ship("bill x 5:a 1;");
+        x.hand(1, 1);
+        x.hand(2, 1);
+        x.hand(0, 1);
+        int[] hands = {2, 0, 1};
+        for (int o = 0; o < hands.length; o++) {
+            x.could(0);
+            Check.due("order", x.order(0), o);
+            stations(x, o, hands[o]);
+            Check.due("called", x.ordered(o, 2), o == 0 ? 0 : 1);
+        }
     }
 
     private static void handsThatCannot() {

@@ -17,6 +17,7 @@ public final class TextTest {
         faultAnswers();
         faultyTextChangesNothing();
         soundTextBeginsAnew();
+        nothingStaysOfOtherTexts();
         bills();
         watches();
         Check.finish();
@@ -287,6 +288,23 @@ public final class TextTest {
         Check.due("anew: order", x.order(0), 0);
     }
 
+    private static void nothingStaysOfOtherTexts() {
+        String full = "watch 1 7;rest 9 8 7;dull 6;learn 5;least 4;bill x 1:a 1;";
+        int[] without = {48, 48, 0, 0, 0, 0, 0};
+        WatchBill behindFaulty = new WatchBill();
+        Check.text(behindFaulty, full + "#");
+        WatchBill behindSound = Check.ship(full);
+        Check.text(behindSound, full);
+        for (WatchBill x : new WatchBill[] {behindFaulty, behindSound}) {
+            Check.due("a bill of an earlier text", Check.text(x, "bill x 2:b 1;"), 1);
+            Check.due("its bells", x.bill(0, 0), 2);
+            for (int i = 0; i < without.length; i++) {
+                Check.due("behind another text: about " + (6 + i), x.about(6 + i), without[i]);
+            }
+            Check.due("behind another text: watch", x.watch(0), 0);
+        }
+    }
+
     private static void bills() {
         WatchBill x = Check.ship("bill one 48:f 2 a 1 f 1;bill two 1:c 8 d 4;");
         int[] skills = {5, 5, 0, 5};
@@ -320,6 +338,11 @@ public final class TextTest {
         Check.due("watch 1001", x.watch(1001), NONE);
         Check.due("watch -1", x.watch(-1), NONE);
         Check.due("watch far", x.watch(Integer.MAX_VALUE), NONE);
+        WatchBill twelve = Check.ship("watch 0 1 1 1 2 1 0 1 1 1 2 1 0 1 1 1 2 1 0 1 1 1 2 48;");
+        for (int ahead = 0; ahead < 60; ahead++) {
+            int bell = ahead % 59;
+            Check.due("twelve spans: watch " + ahead, twelve.watch(ahead), bell < 11 ? bell % 3 : 2);
+        }
         x.bells(4);
         for (int ahead = 0; ahead < 12; ahead++) {
             Check.due("behind 4 bells: watch " + ahead, x.watch(ahead), round[(4 + ahead) % 6]);
