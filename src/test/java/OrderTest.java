@@ -20,23 +20,6 @@ public final class OrderTest {
         Check.finish();
     }
 
-    private static void stations(WatchBill x, int o, int... hands) {
-        for (int i = 0; i < hands.length; i++) {
-            Check.due("order " + o + ", station " + i, x.ordered(o, 100 + i), hands[i]);
-        }
-        Check.due("order " + o + ", behind its stations", x.ordered(o, 100 + hands.length), NONE);
-    }
-
-    private static void learnersAre(WatchBill x, int o, int... hands) {
-        int number = 0;
-        for (int i = 0; i < hands.length; i++) {
-            Check.due("order " + o + ", learner " + i, x.ordered(o, 200 + i), hands[i]);
-            number += hands[i] == NONE ? 0 : 1;
-        }
-        Check.due("order " + o + ", behind its learners", x.ordered(o, 200 + hands.length), NONE);
-        Check.due("order " + o + ", learners", x.ordered(o, 3), number);
-    }
-
     private static void firstByStations() {
         WatchBill x = Check.ship("bill x 5:b 1 a 2;");
         x.hand(0, 3);
@@ -44,18 +27,18 @@ public final class OrderTest {
         x.hand(0, 2);
         x.hand(0, 1);
         Check.due("order", x.order(0), 0);
-        stations(x, 0, 0, 1, 3);
+        Check.stations(x, 0, 0, 1, 3);
         Check.due("bill", x.ordered(0, 0), 0);
         Check.due("left", x.ordered(0, 1), 5);
         Check.due("called", x.ordered(0, 2), 0);
-        learnersAre(x, 0, NONE, NONE, NONE);
+        Check.learners(x, 0, NONE, NONE, NONE);
         Check.due("orders", x.about(3), 1);
         // Hand 0 alone has the skill of the last station, so the first takes hand 1.
         WatchBill y = Check.ship("bill x 5:b 1 a 1;");
         y.hand(0, 3);
         y.hand(0, 2);
         Check.due("order", y.order(0), 0);
-        stations(y, 0, 1, 0);
+        Check.stations(y, 0, 1, 0);
     }
 
     private static void fewestFromBelow() {
@@ -65,14 +48,14 @@ public final class OrderTest {
         x.hand(0, 1);
         x.hand(0, 0);
         Check.due("order", x.order(0), 0);
-        stations(x, 0, 0, 2);
+        Check.stations(x, 0, 0, 2);
         Check.due("called", x.ordered(0, 2), 1);
         WatchBill y = Check.ship("bill x 5:a 2;");
         y.hand(1, 1);
         y.hand(0, 1);
         y.hand(0, 1);
         Check.due("order", y.order(0), 0);
-        stations(y, 0, 1, 2);
+        Check.stations(y, 0, 1, 2);
         Check.due("called", y.ordered(0, 2), 0);
     }
 
@@ -85,7 +68,7 @@ public final class OrderTest {
         x.hand(1, 1);
         x.hand(1, 4);
         Check.due("order", x.order(0), 0);
-        stations(x, 0, 1, 0, 2);
+        Check.stations(x, 0, 1, 0, 2);
         Check.due("called", x.ordered(0, 2), 1);
     }
 
@@ -99,7 +82,7 @@ public final class OrderTest {
         for (int o = 0; o < hands.length; o++) {
             x.could(0);
             Check.due("order", x.order(0), o);
-            stations(x, o, hands[o]);
+            Check.stations(x, o, hands[o]);
             Check.due("called", x.ordered(o, 2), o == 0 ? 0 : 1);
         }
     }
@@ -113,18 +96,18 @@ public final class OrderTest {
         Check.due("a hand is sick", x.order(1), NONE);
         Check.due("no order", x.about(3), 0);
         Check.due("order", x.order(0), 0);
-        stations(x, 0, 1);
+        Check.stations(x, 0, 1);
         Check.due("all are taken", x.order(0), NONE);
         x.bells(1);
         Check.due("a hand is well", x.order(0), 1);
-        stations(x, 1, 0);
+        Check.stations(x, 1, 0);
         x.bells(1);
         Check.due("order 0 ended, one hand for two", x.order(1), NONE);
         // A sick hand at a station is still at it as it gets well.
         x.sick(0, 9);
         x.sick(0, 0);
         Check.due("order", x.order(0), 2);
-        stations(x, 2, 1);
+        Check.stations(x, 2, 1);
     }
 
     private static void watchOfTheNextBell() {
@@ -134,12 +117,12 @@ public final class OrderTest {
         x.hand(0, 0);
         x.hand(1, 0);
         Check.due("order", x.order(0), 0);
-        stations(x, 0, 0);
-        learnersAre(x, 0, 2);
+        Check.stations(x, 0, 0);
+        Check.learners(x, 0, 2);
         x.bells(1);
         Check.due("order", x.order(0), 1);
-        stations(x, 1, 1);
-        learnersAre(x, 1, 3);
+        Check.stations(x, 1, 1);
+        Check.learners(x, 1, 3);
         Check.due("called", x.ordered(1, 2), 0);
     }
 
@@ -155,13 +138,13 @@ public final class OrderTest {
         x.sick(6, 1);
         // Free: 5 has b alone and learns a; 4 has a and waits for the station of b; 6 is sick.
         Check.due("order", x.order(0), 0);
-        stations(x, 0, 0, 1, 2);
-        learnersAre(x, 0, 5, NONE, 4);
+        Check.stations(x, 0, 0, 1, 2);
+        Check.learners(x, 0, 5, NONE, 4);
         WatchBill y = Check.ship("bill x 2:a 1;");
         y.hand(0, 1);
         y.hand(0, 0);
         y.order(0);
-        learnersAre(y, 0, NONE);
+        Check.learners(y, 0, NONE);
     }
 
     private static void learnersLearnedMost() {
@@ -171,14 +154,14 @@ public final class OrderTest {
         x.hand(0, 0);
         x.sick(1, 1);
         x.order(0);
-        learnersAre(x, 0, 2);
+        Check.learners(x, 0, 2);
         x.bells(1);
         Check.due("learned a", x.handOf(2, 10), 1);
         x.order(0);
-        learnersAre(x, 1, 2);
+        Check.learners(x, 1, 2);
         x.bells(1);
         x.order(1);
-        learnersAre(x, 2, 1);
+        Check.learners(x, 2, 1);
         x.bells(1);
         Check.due("learned a", x.handOf(2, 10), 2);
         Check.due("learned b", x.handOf(1, 11), 1);
@@ -198,12 +181,12 @@ public final class OrderTest {
         Check.due("skills", x.handOf(1, 1), 8);
         x.sick(1, 0);
         x.order(0);
-        learnersAre(x, 1, 1);
+        Check.learners(x, 1, 1);
         x.bells(2);
         Check.due("learned", x.handOf(1, 12), 2);
         Check.due("skills", x.handOf(1, 1), 12);
         x.order(0);
-        learnersAre(x, 2, NONE);
+        Check.learners(x, 2, NONE);
         Check.due("has the skill: could", x.could(0), 1);
     }
 
@@ -212,20 +195,20 @@ public final class OrderTest {
         x.hand(0, 1);
         x.hand(0, 2);
         x.order(0);
-        learnersAre(x, 0, 1);
+        Check.learners(x, 0, 1);
         Check.due("a learner can't be at a station", x.could(1), 0);
         Check.due("a learner can't be at a station", x.order(1), NONE);
         x.bells(3);
         Check.due("now it can", x.order(1), 1);
-        learnersAre(x, 1, 0);
+        Check.learners(x, 1, 0);
         WatchBill y = Check.ship("learn 2;bill x 3:a 1;");
         y.hand(0, 1);
         y.hand(0, 1);
         y.hand(0, 0);
         y.order(0);
         y.order(0);
-        learnersAre(y, 0, 2);
-        learnersAre(y, 1, NONE);
+        Check.learners(y, 0, 2);
+        Check.learners(y, 1, NONE);
     }
 
     private static void lasting() {
@@ -287,7 +270,7 @@ public final class OrderTest {
         Check.due("f is full", x.could(1), 8);
         Check.due("c is not", x.order(0), NONE);
         Check.due("eight of f", x.order(1), 0);
-        stations(x, 0, 5, 6, 7, 8, 9, 10, 11, 12);
+        Check.stations(x, 0, 5, 6, 7, 8, 9, 10, 11, 12);
     }
 
     private static void wrongInputs() {
