@@ -67,13 +67,14 @@ public final class PromisesTest {
         for (int h = 0; h < 16; h++) {
             y.hand(h % 3, 3);
         }
-        int orders = 0;
-        for (int i = 0; i < 400; i++) {
-            orders += y.order(0) == NONE ? 0 : 1;
-            y.bells(50);
+        for (int o = 0; o < 60; o++) {
+            Check.due("order", y.order(0), o);
+            y.bells(48);
         }
-        Check.due("orders", orders, 60);
-        Check.due("bells", y.about(2), 20000);
+        for (int i = 0; i < 35; i++) {
+            y.bells(480);
+        }
+        Check.due("bells", y.bells(320), 20000);
         Check.due("breaches", y.about(4), 16 * (20000 - 95));
     }
 
@@ -92,6 +93,11 @@ public final class PromisesTest {
         Check.due("watch", x.watch(47), 0);
         Check.due("a hand can come, for it is bell 0", x.hand(2, 63), 0);
         Check.due("bell 0 can be worked", x.bells(1), 1);
+        Check.places(x, 0);
+        WatchBill watched = new WatchBill();
+        watched.hand(0, 63);
+        watched.bells(1);
+        Check.places(watched, 1);
         // A second object knows nothing of the first.
         Check.due("another object", new WatchBill().about(0), 0);
     }
@@ -241,6 +247,33 @@ public final class PromisesTest {
         y.bells(50);
         plain.bells(50);
         Check.same("as a new one without clauses", Check.state(y), Check.state(plain));
+        restsBeginAnew();
+    }
+
+    /** The free bells and the stations ahead of a text aren't among the last ones behind it. */
+    private static void restsBeginAnew() {
+        String[] rests = {"rest 3 1 0;", "rest 3 0 1;", "rest 3 0 2;", "rest 3 3 0;", "rest 3 2 2;"};
+        for (String rest : rests) {
+            for (int sickAhead = 0; sickAhead < 5; sickAhead++) {
+                for (int sickBehind = 0; sickBehind < 4; sickBehind++) {
+                    String text = rest + "bill x 1:a 1;";
+                    WatchBill x = Check.ship(text, 0, 1);
+                    WatchBill fresh = Check.ship(text, 0, 1);
+                    x.order(0);
+                    x.bells(7);
+                    x.order(0);
+                    x.bells(1);
+                    x.sick(0, sickAhead);
+                    x.bells(4);
+                    Check.text(x, text);
+                    x.sick(0, sickBehind);
+                    fresh.sick(0, sickBehind);
+                    x.bells(5);
+                    fresh.bells(5);
+                    Check.same("rests begin anew", Check.state(x), Check.state(fresh));
+                }
+            }
+        }
     }
 
     private static void promise4FaultAllStays() {

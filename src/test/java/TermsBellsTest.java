@@ -448,6 +448,15 @@ public final class TermsBellsTest {
         WatchBill all = Check.ship("watch 2 1;bill x 1:a 2;", 1, 1, 0, 1);
         Check.due("order", all.order(0), 0);
         Check.due("all from below", all.ordered(0, 2), 2);
+        // Each order counts by itself: the first took the watch's own hand.
+        WatchBill next = Check.ship("bill x 5:a 1;", 1, 1, 2, 1, 0, 1);
+        int[] hands = {2, 0, 1};
+        for (int o = 0; o < hands.length; o++) {
+            Check.due("could", next.could(0), 1);
+            Check.due("order", next.order(0), o);
+            Check.stations(next, o, hands[o]);
+            Check.due("from below", next.ordered(o, 2), o == 0 ? 0 : 1);
+        }
     }
 
     private static void orderFirstByStations() {
@@ -459,6 +468,13 @@ public final class TermsBellsTest {
         WatchBill y = Check.ship("bill x 1:b 1 a 1;", 0, 3, 0, 2);
         Check.due("order", y.order(0), 0);
         Check.stations(y, 0, 1, 0);
+        // A hand that a station further on needs is left, though the stations ahead are many.
+        WatchBill left = Check.ship("bill x 1:b 2 a 1;", 0, 3, 0, 2, 0, 2);
+        Check.due("order", left.order(0), 0);
+        Check.stations(left, 0, 1, 2, 0);
+        WatchBill between = Check.ship("bill y 1:a 1 b 1 a 1;", 0, 1, 0, 3, 0, 2);
+        Check.due("order", between.order(0), 0);
+        Check.stations(between, 0, 0, 2, 1);
         // One comes from below in any case: as the lower hand it comes first.
         WatchBill z = Check.ship("bill x 1:a 2;", 1, 1, 0, 1, 1, 1);
         Check.due("order", z.order(0), 0);

@@ -309,6 +309,14 @@ public final class TermsTextTest {
             }
             Check.due("[" + text + "] watch", x.watch(47), set & 1);
         }
+        // Whatever the texts ahead told, sound or not.
+        WatchBill later = Check.ship(String.join("", clauses));
+        Check.text(later, String.join("", clauses));
+        Check.text(later, String.join("", clauses) + "#");
+        Check.due("a text without clauses", later.text(), 0);
+        for (int i = 0; i < without.length; i++) {
+            Check.due("later: about " + (6 + i), later.about(6 + i), without[i]);
+        }
     }
 
     private static void faultsTheFirstAsTokensAreComeTo() {
@@ -498,6 +506,8 @@ public final class TermsTextTest {
         WatchBill x = Check.ship(bills(8));
         Check.due("the eighth bill", x.bill(7, 0), 1);
         Check.due("behind eight bills as many again", Check.text(x, bills(8)), 8);
+        Check.due("and again", Check.text(x, bills(8)), 8);
+        Check.due("stations of the eighth", x.bill(7, 1), 1);
     }
 
     private static void fault4ThirteenthSpan() {
