@@ -51,10 +51,10 @@ public final class BellTest {
         for (int[] two : drawn) {
             for (int bell = 0; bell < 48; bell++) {
                 x.bells(1);
-                for (int h = 0; h < 3; h++) {
+                // Not at every bell: an object is used for at most 512 calls.
+                for (int h = 0; h < 3 && (bell < 10 || bell == 47); h++) {
                     boolean isDrawn = h == two[0] || h == two[1];
-                    Check.due("hand " + h + " at bell " + (x.about(2) - 1), x.handOf(h, 7),
-                        isDrawn && bell < 8 ? 8 : 0);
+                    Check.due("hand " + h + " at bell " + bell, x.handOf(h, 7), isDrawn && bell < 8 ? 8 : 0);
                 }
             }
         }
