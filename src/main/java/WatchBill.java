@@ -998,7 +998,9 @@ public final class WatchBill {
                 int h = fitting.chosen[i];
                 hands[o * MOST_STATIONS + i] = h;
                 learnerRows[o * MOST_STATIONS + i] = NONE;
-                crew.stationOrder[h] = o;
+                if (crew.has(h)) {
+                    crew.stationOrder[h] = o;
+                }
             }
             return o;
         }

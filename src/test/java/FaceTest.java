@@ -6,7 +6,6 @@ import java.lang.reflect.Modifier;
 import java.nio.charset.StandardCharsets;
 import java.nio.file.Files;
 import java.nio.file.Paths;
-import java.util.Arrays;
 import java.util.Set;
 import java.util.TreeSet;
 import java.util.regex.Matcher;
@@ -15,22 +14,44 @@ import java.util.regex.Pattern;
 /** The document's face and no other, and of LANGUAGE.md's rules those that can be looked at. */
 public final class FaceTest {
     private static final String SOURCE = "src/main/java/WatchBill.java";
-    private static final String[] FACE = {
-        "int feed(int, int, int, int, int)", "int end(int)", "int text()", "int fault(int)",
-        "int hand(int, int)", "boolean sick(int, int)", "int handOf(int, int)",
-        "int bill(int, int)", "int watch(int)", "int order(int)", "int ordered(int, int)",
-        "int could(int)", "int bells(int)", "int breach(int, int)", "int about(int)"};
+    private static final String DOCUMENT = "../shared/DOC.md";
+    private static final int METHODS = 15;
+    private static final Set<String> LIBRARY = Set.of("Arrays.fill", "Math.max", "Math.min");
     private static final String[] RULED_OUT = {"throw", "throws", "try", "catch", "synchronized",
         "assert", "protected", "volatile", "native", "package", "hashCode", "toString", "System",
         "Random", "Thread", "->", "::"};
 
     public static void main(String[] args) throws IOException {
-        methods();
+        Set<String> face = faceOfTheDocument();
+        methods(face);
         constantsAndConstructor();
-        namesOfMethodsInside();
+        namesOfMethodsInside(face);
         words();
+        libraryCalls();
+        objectsAreMadeByConstructors();
         lengthsOfMethods();
         Check.finish();
+    }
+
+    private static String read(String path) throws IOException {
+        return new String(Files.readAllBytes(Paths.get(path)), StandardCharsets.UTF_8);
+    }
+
+    /** Each method as the document's face has it, without the names of its parameters. */
+    private static Set<String> faceOfTheDocument() throws IOException {
+        String doc = read(DOCUMENT);
+        int begin = doc.indexOf("public final class WatchBill {");
+        String block = doc.substring(Math.max(begin, 0), doc.indexOf("```", Math.max(begin, 0)));
+        Set<String> face = new TreeSet<>();
+        Matcher method = Pattern.compile("(?m)^    public (\\w+ \\w+\\([^)]*\\));$").matcher(block);
+        while (method.find()) {
+            face.add(method.group(1).replaceAll("(int|boolean) \\w+(?=[,)])", "$1"));
+        }
+        Check.due("methods of the document's face", face.size(), METHODS);
+        Check.due("the face's constant", block.contains("public static final int NONE = -1;"), true);
+        Check.due("the face's constructor", block.contains("public WatchBill();"), true);
+        Check.due("members of the face", block.split("\n    public ").length - 1, METHODS + 2);
+        return face;
     }
 
     private static String told(Method m) {
@@ -41,7 +62,7 @@ public final class FaceTest {
         return s.append(")").toString();
     }
 
-    private static void methods() {
+    private static void methods(Set<String> face) {
         Set<String> open = new TreeSet<>();
         for (Method m : WatchBill.class.getDeclaredMethods()) {
             if (!Modifier.isPrivate(m.getModifiers()) && !m.isSynthetic()) {
@@ -50,7 +71,7 @@ public final class FaceTest {
                     Modifier.isPublic(m.getModifiers()) && !Modifier.isStatic(m.getModifiers()), true);
             }
         }
-        Check.due("the face's methods, found " + open, open.equals(new TreeSet<>(Arrays.asList(FACE))), true);
+        Check.same("the face's methods", open.toString(), face.toString());
     }
 
     private static void constantsAndConstructor() {
@@ -67,9 +88,9 @@ public final class FaceTest {
         Check.due("it is public", Modifier.isPublic(all[0].getModifiers()), true);
     }
 
-    private static void namesOfMethodsInside() {
+    private static void namesOfMethodsInside(Set<String> face) {
         Set<String> names = new TreeSet<>();
-        for (String method : FACE) {
+        for (String method : face) {
             names.add(method.replaceAll("^\\w+ (\\w+).*", "$1"));
         }
         Class<?>[] inside = WatchBill.class.getDeclaredClasses();
@@ -89,8 +110,7 @@ public final class FaceTest {
     }
 
     private static String sourceWithoutComments() throws IOException {
-        String s = new String(Files.readAllBytes(Paths.get(SOURCE)), StandardCharsets.UTF_8);
-        return s.replaceAll("(?s)/\\*.*?\\*/", "").replaceAll("//[^\n]*", "");
+        return read(SOURCE).replaceAll("(?s)/\\*.*?\\*/", "").replaceAll("//[^\n]*", "");
     }
 
     private static void words() throws IOException {
@@ -103,6 +123,27 @@ public final class FaceTest {
         Matcher imports = Pattern.compile("import ([\\w.*]+);").matcher(source);
         while (imports.find()) {
             Check.due("import of " + imports.group(1), imports.group(1).equals("java.util.Arrays"), true);
+        }
+    }
+
+    private static void libraryCalls() throws IOException {
+        Matcher call = Pattern.compile("\\b[A-Z]\\w*\\.\\w+(?=\\()").matcher(sourceWithoutComments());
+        while (call.find()) {
+            Check.due("the library's " + call.group(), LIBRARY.contains(call.group()), true);
+        }
+    }
+
+    /** All calls of a run share one room: what a call would make is never given back. */
+    private static void objectsAreMadeByConstructors() throws IOException {
+        String method = "";
+        for (String line : sourceWithoutComments().split("\n")) {
+            if (line.contains(" class ")) {
+                method = "";
+            } else if (line.matches("( {4}| {8})(?!if|for|while|switch)\\w[\\w\\[\\] ]*\\(.*\\) \\{")) {
+                method = line.trim();
+            }
+            boolean inMethod = !method.isEmpty() && !method.matches("(public )?[A-Z]\\w*\\(.*");
+            Check.due("made in " + method + line, inMethod && line.matches(".*\\bnew\\b.*"), false);
         }
     }
 

@@ -8,6 +8,8 @@ public final class ModelTest {
         "b", "f", "g", "x", "abcdefgh", "abcdefghi", ":", ";", ";", "0", "1", "2", "3", "8", "9",
         "16", "48", "49", "96", "100", "7777777777777", "#", "\t", "\n"};
 
+    private static final int[] LIMITS = {0, 2, 16, 48, 60, 63, 100, 112, 200, 212, 400, 480, 1000, 20000};
+
     private final Random random;
     private final int run;
     private final WatchBill x = new WatchBill();
@@ -54,6 +56,10 @@ public final class ModelTest {
     }
 
     private void call() {
+        if (oneIn(8)) {
+            wildCall(below(13));
+            return;
+        }
         int kind = below(100);
         if (kind < 35) {
             int bill = below(9) - (oneIn(9) ? 1 : 0);
@@ -80,6 +86,68 @@ public final class ModelTest {
         }
     }
 
+    /** Numbers at the ends of what an int can be, and about the document's limits. */
+    private int wild() {
+        switch (below(4)) {
+            case 0:
+                return LIMITS[below(LIMITS.length)] + below(3) - 1;
+            case 1:
+                return (oneIn(2) ? Integer.MIN_VALUE : Integer.MAX_VALUE - 250) + below(251);
+            case 2:
+                return random.nextInt();
+            default:
+                return below(20);
+        }
+    }
+
+    private void wildCall(int method) {
+        int a = wild();
+        int b = wild();
+        String told = method + ": " + a + " " + b;
+        int[] w = {a, b, random.nextInt(), random.nextInt(), random.nextInt()};
+        switch (method) {
+            case 0:
+                due("feed", x.feed(w[0], w[1], w[2], w[3], w[4]), model.feed(w));
+                break;
+            case 1:
+                due("end " + told, x.end(a), model.end(a));
+                break;
+            case 2:
+                due("fault " + told, x.fault(a), model.fault(a));
+                break;
+            case 3:
+                due("hand " + told, x.hand(a, b), model.hand(a, b));
+                break;
+            case 4:
+                due("sick " + told, x.sick(a, b) ? 1 : 0, model.sick(a, b) ? 1 : 0);
+                break;
+            case 5:
+                due("handOf " + told, x.handOf(a, b), model.handOf(a, b));
+                break;
+            case 6:
+                due("bill " + told, x.bill(a, b), model.bill(a, b));
+                break;
+            case 7:
+                due("watch " + told, x.watch(a), model.watch(a));
+                break;
+            case 8:
+                due("could " + told, x.could(a), model.could(a));
+                due("order " + told, x.order(a), model.order(a));
+                break;
+            case 9:
+                due("ordered " + told, x.ordered(a, b), model.ordered(a, b));
+                break;
+            case 10:
+                due("bells " + told, x.bells(a), model.bells(a));
+                break;
+            case 11:
+                due("breach " + told, x.breach(a, b), model.breach(a, b));
+                break;
+            default:
+                due("about " + told, x.about(a), model.about(a));
+        }
+    }
+
     private void hand() {
         int watch = oneIn(30) ? below(9) - 3 : below(3);
         int skills = oneIn(30) ? below(200) - 60 : oneIn(2) ? below(64) & below(64) : below(64);
@@ -88,6 +156,10 @@ public final class ModelTest {
 
     private void text(String text) {
         String cut = text.length() > 400 ? text.substring(0, 400) : text;
+        // Bytes of wild calls may stand on the tape: only now and then they come ahead of the text.
+        if (!oneIn(6)) {
+            due("end 0", x.end(0), model.end(0));
+        }
         for (int at = 0; at < cut.length(); at += 20) {
             int[] w = new int[5];
             for (int i = 0; i < 5; i++) {
